@@ -1002,7 +1002,7 @@ public final class ReviewTable {
 
         /** One index for both orders of a pair; that of a worker with itself is never written. */
         static int pairIndex(int worker, int other) {
-            return Math.min(worker, other) * MAX_WORKERS + Math.max(worker, other);
+            return worker < other ? worker * MAX_WORKERS + other : other * MAX_WORKERS + worker;
         }
 
         void tellApart(int worker, int other, boolean apart) {
@@ -1389,8 +1389,6 @@ public final class ReviewTable {
         TABLE("table"), TOLERANCE("tolerance"), PATIENCE("patience"), LEAST("least"), WORKER("worker"), TEAM("team"),
         QUOTA("quota"), TRUST("trust"), ROWS("rows"), SIZE("size"), BAR("bar");
 
-        private static final Keyword[] ALL = values();
-
         final String text;
 
         Keyword(String text) {
@@ -1414,6 +1412,8 @@ public final class ReviewTable {
         private static final int NO_ROOM = 4;
 
         private static final int BEYOND_EVERY_RANGE = 1000;
+
+        private static final Keyword[] KEYWORDS = Keyword.values();
 
         int code;
         int codePosition;
@@ -1499,20 +1499,16 @@ public final class ReviewTable {
                 return false;
             }
             int quota = accepted;
-            if (!readTrust()) {
-                return false;
+            int trust = USUAL_TRUST;
+            if (isAt(Keyword.TRUST)) {
+                nextToken();
+                if (!readNumber(0, MAX_TRUST)) {
+                    return false;
+                }
+                trust = accepted;
             }
-            draft.putWorker(name, team, quota, accepted);
+            draft.putWorker(name, team, quota, trust);
             return readSemicolon();
-        }
-
-        private boolean readTrust() {
-            if (!isAt(Keyword.TRUST)) {
-                accepted = USUAL_TRUST;
-                return true;
-            }
-            nextToken();
-            return readNumber(0, MAX_TRUST);
         }
 
         private boolean readRowsStatement() {
@@ -1607,7 +1603,7 @@ public final class ReviewTable {
             if (kind != WORD || end - start > MAX_NAME) {
                 return false;
             }
-            for (Keyword keyword : Keyword.ALL) {
+            for (Keyword keyword : KEYWORDS) {
                 if (isAt(keyword)) {
                     return false;
                 }
@@ -1630,45 +1626,40 @@ public final class ReviewTable {
                 start++;
             }
             end = start;
-            if (start >= input.length) {
-                kind = END;
-            } else if (isLetter(input.bytes[start])) {
-                readWord();
-            } else if (isDigit(input.bytes[start])) {
-                readDigits();
-            } else {
-                kind = SYMBOL;
+            kind = kindAt(start);
+            if (kind == SYMBOL) {
                 end = start + 1;
+                return;
             }
-        }
-
-        private void readWord() {
-            kind = WORD;
-            while (end < input.length && isLetter(input.bytes[end])) {
+            while (end < input.length && kindAt(end) == kind) {
                 end++;
+            }
+            if (kind == NUMBER) {
+                readDigits();
             }
         }
 
         /** Stops the value above every range, so that a number of any length is simply too great. */
         private void readDigits() {
-            kind = NUMBER;
             value = 0;
-            while (end < input.length && isDigit(input.bytes[end])) {
-                value = Math.min(BEYOND_EVERY_RANGE, value * 10 + input.bytes[end] - '0');
-                end++;
+            for (int i = start; i < end && value < BEYOND_EVERY_RANGE; i++) {
+                value = value * 10 + input.bytes[i] - '0';
             }
+        }
+
+        private int kindAt(int position) {
+            if (position >= input.length) {
+                return END;
+            }
+            int sign = input.bytes[position];
+            if (sign >= 'a' && sign <= 'z') {
+                return WORD;
+            }
+            return sign >= '0' && sign <= '9' ? NUMBER : SYMBOL;
         }
 
         private static boolean isBlank(int sign) {
             return sign == ' ' || sign == '\n';
-        }
-
-        private static boolean isLetter(int sign) {
-            return sign >= 'a' && sign <= 'z';
-        }
-
-        private static boolean isDigit(int sign) {
-            return sign >= '0' && sign <= '9';
         }
     }
 }
