@@ -1165,7 +1165,7 @@ public final class ReviewTable {
 
         /**
          * How many workers can have rows at once follows from the shortest group of them: of a group, only as many
-         * get a row as there are rows for any of it, and all others may get one (the theorem of König and Ore).
+         * get a row as there are rows for any of it, and all others may get one (the theorem of Koenig and Ore).
          */
         int greatestMatching() {
             int[] offered = new int[MAX_WORKERS];
