@@ -537,11 +537,21 @@ public final class ReviewTable {
 
     public int setTable(int what, int value) throws IllegalArgumentException {
         requireRange(what, 0, 2);
+        requireSetting(what, value);
+        int previous = property(3 + what);
+        history.remember(table);
         switch (what) {
-            case 0: return setTolerance(value);
-            case 1: return setPatience(value);
-            default: return setLeast(value);
+            case 0:
+                table.tolerance = value;
+                break;
+            case 1:
+                table.patience = value;
+                break;
+            default:
+                table.least = value;
+                break;
         }
+        return previous;
     }
 
     // ---- slots and undo ---------------------------------------------------------------------
@@ -620,6 +630,20 @@ public final class ReviewTable {
         }
     }
 
+    private static void requireSetting(int what, int value) {
+        switch (what) {
+            case 0:
+                requireRange(value, 0, MAX_TOLERANCE);
+                break;
+            case 1:
+                requireRange(value, 1, MAX_PATIENCE);
+                break;
+            default:
+                requireRange(value, 0, MAX_LEAST);
+                break;
+        }
+    }
+
     private static void requireSlot(int slot) {
         if (slot < 0 || slot >= SLOTS) {
             throw new IndexOutOfBoundsException("no such slot");
@@ -648,30 +672,6 @@ public final class ReviewTable {
     }
 
     // ---- parts of the calls above -----------------------------------------------------------
-
-    private int setTolerance(int value) {
-        requireRange(value, 0, MAX_TOLERANCE);
-        history.remember(table);
-        int previous = table.tolerance;
-        table.tolerance = value;
-        return previous;
-    }
-
-    private int setPatience(int value) {
-        requireRange(value, 1, MAX_PATIENCE);
-        history.remember(table);
-        int previous = table.patience;
-        table.patience = value;
-        return previous;
-    }
-
-    private int setLeast(int value) {
-        requireRange(value, 0, MAX_LEAST);
-        history.remember(table);
-        int previous = table.least;
-        table.least = value;
-        return previous;
-    }
 
     private void separate(int index) {
         if (index > 0) {
@@ -1227,20 +1227,18 @@ public final class ReviewTable {
             time += ticks;
             int count = 0;
             for (int i = 0; i < rowCount; i++) {
-                count += dropLate(rows[i]);
+                count += dropWork(rows[i], true);
             }
             return count;
         }
 
-        int dropLate(Row row) {
+        /** Takings in work are gone: only the late ones, at the cost of their workers' trust, or all. */
+        int dropWork(Row row, boolean onlyLate) {
             int kept = 0;
             int before = row.takingCount;
             for (int i = 0; i < before; i++) {
-                if (row.isLateAt(i, time)) {
-                    Worker worker = workers[row.workerOf[i]];
-                    worker.inWork--;
-                    worker.late++;
-                    worker.changeTrust(-1);
+                if (onlyLate ? row.isLateAt(i, time) : row.isInWork(i)) {
+                    endWork(workers[row.workerOf[i]], onlyLate);
                 } else {
                     row.moveTaking(i, kept);
                     kept++;
@@ -1250,20 +1248,17 @@ public final class ReviewTable {
             return before - kept;
         }
 
-        int giveUp(Row row) {
-            int kept = 0;
-            int before = row.takingCount;
-            for (int i = 0; i < before; i++) {
-                if (row.isInWork(i)) {
-                    workers[row.workerOf[i]].inWork--;
-                } else {
-                    row.moveTaking(i, kept);
-                    kept++;
-                }
+        static void endWork(Worker worker, boolean late) {
+            worker.inWork--;
+            if (late) {
+                worker.late++;
+                worker.changeTrust(-1);
             }
-            row.takingCount = kept;
+        }
+
+        int giveUp(Row row) {
             row.state = ASIDE;
-            return before - kept;
+            return dropWork(row, false);
         }
 
         // -- audits --
