@@ -42,10 +42,9 @@ public final class ReviewTable {
     private static final int UNDO_STEPS = 6;
     private static final int SLOTS = 2;
 
+    private final Parser parser;
     private final Input input;
     private final Table table;
-    private final Table draft;
-    private final Parser parser;
     private final History history;
     private final Table[] slots;
     private final boolean[] slotFilled;
@@ -55,10 +54,9 @@ public final class ReviewTable {
     private int parsePosition;
 
     public ReviewTable() {
-        input = new Input();
+        parser = new Parser();
+        input = parser.input;
         table = new Table();
-        draft = new Table();
-        parser = new Parser(input, draft);
         history = new History();
         slots = new Table[SLOTS];
         for (int i = 0; i < SLOTS; i++) {
@@ -99,7 +97,7 @@ public final class ReviewTable {
             return PARSE_ERROR;
         }
         history.remember(table);
-        table.copyFrom(draft);
+        table.copyFrom(parser.draft);
         return table.workerCount;
     }
 
@@ -1412,18 +1410,13 @@ public final class ReviewTable {
 
         int code;
         int codePosition;
-        private final Input input;
-        private final Table draft;
+        final Input input = new Input();
+        final Table draft = new Table();
         private int kind;
         private int start;
         private int end;
         private int value;
         private int accepted;
-
-        Parser(Input input, Table draft) {
-            this.input = input;
-            this.draft = draft;
-        }
 
         boolean parseText() {
             code = 0;
