@@ -212,6 +212,24 @@ public final class LimitsTest {
         Check.due("nobody took it", x.row(1, 6), 0);
     }
 
+    /** Takings that are gone count nowhere, and a row may have three. */
+    private static void takingsOfBefore() {
+        ReviewTable x = Check.loaded(SIX + "rows 1 size 1;");
+        x.takeRow(0, 0);
+        x.takeRow(1, 0);
+        Check.due("pass(6)", x.pass(6), 2);
+        Check.due("nextDue()", x.nextDue(), -1);
+        Check.due("lateIn(99)", x.lateIn(99), 0);
+        work(x, 0, 2, 10, 3, 20);
+        x.takeRow(4, 0);
+        Check.due("nextDue() of the third", x.nextDue(), 11);
+        Check.due("lateIn(6) of the third", x.lateIn(6), 1);
+        Check.due("setAside(0)", x.setAside(0), 1);
+        Check.due("nextDue()", x.nextDue(), -1);
+        Check.due("lateIn(99)", x.lateIn(99), 0);
+        Check.due("property(2)", x.property(2), 6);
+    }
+
     /** Rows that a smaller table does not have count nowhere, though they were there before. */
     private static void rowsOfAnotherTable() {
         ReviewTable x = Check.loaded(SIX + "rows 1 size 1;");
@@ -272,6 +290,7 @@ public final class LimitsTest {
         bestPairOnlyOfOpenRows();
         fullTable();
         rowsOfBefore();
+        takingsOfBefore();
         rowsOfAnotherTable();
         longText();
         Check.finish("LimitsTest");
