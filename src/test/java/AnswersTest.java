@@ -1,30 +1,15 @@
 /** Promises 8 to 39: the calls that only ask. */
 public final class AnswersTest {
-    private static final String HEAD = "table tolerance 2 patience 5 least 5;";
+    private static final String HEAD = Check.HEAD;
     private static final String FOUR = HEAD + "worker amos team 0 quota 2;worker bea team 1 quota 2 trust 12;"
             + "worker cy team 2 quota 1;worker dan team 0 quota 3;rows 2 size 4;rows 1 size 6;rows 1 size 9;";
-    private static final String SIX = HEAD + "worker a team 0 quota 5;worker b team 1 quota 5;worker c team 2 quota 5;"
-            + "worker d team 3 quota 5;worker e team 4 quota 5;worker f team 5 quota 5;";
-
-    private static void take(ReviewTable x, int row, int... workers) {
-        for (int w : workers) {
-            x.takeRow(w, row);
-        }
-    }
-
-    /** The workers take the row and deliver their results: pairs of a worker and its result. */
-    private static void work(ReviewTable x, int row, int... pairs) {
-        for (int i = 0; i < pairs.length; i += 2) {
-            x.takeRow(pairs[i], row);
-            x.deliver(pairs[i], row, pairs[i + 1]);
-        }
-    }
+    private static final String SIX = Check.SIX;
 
     /** Promise 8. */
     private static void property() {
         ReviewTable x = Check.loaded(FOUR);
-        work(x, 0, 0, 10, 1, 12);
-        work(x, 1, 0, 10, 1, 13);
+        Check.work(x, 0, 0, 10, 1, 12);
+        Check.work(x, 1, 0, 10, 1, 13);
         x.setAside(2);
         x.pass(7);
         x.audit(0, 10);
@@ -40,11 +25,11 @@ public final class AnswersTest {
     /** Promise 9. */
     private static void worker() {
         ReviewTable x = Check.loaded(FOUR);
-        work(x, 0, 1, 50, 0, 50);
-        take(x, 1, 1);
-        take(x, 2, 1);
+        Check.work(x, 0, 1, 50, 0, 50);
+        Check.take(x, 1, 1);
+        Check.take(x, 2, 1);
         x.pass(6);
-        take(x, 3, 1);
+        Check.take(x, 3, 1);
         int[] want = {1, 2, 11, 1, 4, 1, 1, 2, 4};
         for (int i = 0; i <= 8; i++) {
             Check.due("worker(1," + i + ")", x.worker(1, i), want[i]);
@@ -58,7 +43,7 @@ public final class AnswersTest {
     /** Promises 10 to 12. */
     private static void rowTakingFinishers() {
         ReviewTable x = Check.loaded(FOUR);
-        take(x, 0, 0, 1);
+        Check.take(x, 0, 0, 1);
         x.pass(5);
         x.deliver(1, 0, 40);
         Check.due("taking(0,0,1)", x.taking(0, 0, 1), -1);
@@ -74,12 +59,12 @@ public final class AnswersTest {
         for (int i = 0; i <= 6; i++) {
             Check.due("row(0," + i + ")", x.row(0, i), late[i]);
         }
-        work(x, 0, 2, 43);
+        Check.work(x, 0, 2, 43);
         int[] disputed = {4, 1, -1, 0, 2, 1, 7};
         for (int i = 0; i <= 6; i++) {
             Check.due("disputed row(0," + i + ")", x.row(0, i), disputed[i]);
         }
-        work(x, 1, 1, 60, 2, 61);
+        Check.work(x, 1, 1, 60, 2, 61);
         x.audit(1, 62);
         int[] finished = {4, 2, 60, 1, 2, 0, 6};
         for (int i = 0; i <= 6; i++) {
@@ -105,12 +90,12 @@ public final class AnswersTest {
     private static void refusal() {
         ReviewTable x = Check.loaded(FOUR + "bar bea cy;");
         Check.due("refusal(0,0)", x.refusal(0, 0), 0);
-        take(x, 0, 0);
+        Check.take(x, 0, 0);
         Check.due("took it, own team", x.refusal(0, 0), 4);
         Check.due("same team", x.refusal(3, 0), 5);
-        take(x, 0, 1);
+        Check.take(x, 0, 1);
         Check.due("no worker needed", x.refusal(0, 0), 3);
-        take(x, 1, 1);
+        Check.take(x, 1, 1);
         Check.due("quota before need", x.refusal(1, 0), 2);
         Check.due("may not meet", x.refusal(2, 1), 6);
         x.bar(0, 1, true);
@@ -123,7 +108,7 @@ public final class AnswersTest {
         x.setTable(2, 9);
         Check.due("trust is the least", x.refusal(0, 0), 4);
         x.bar(0, 3, true);
-        take(x, 2, 0);
+        Check.take(x, 2, 0);
         Check.due("team before meeting", x.refusal(3, 2), 5);
         x.setAside(3);
         Check.due("set aside", x.refusal(1, 3), 3);
@@ -138,15 +123,15 @@ public final class AnswersTest {
         Check.due("offers(0)", x.offers(0), 15);
         Check.due("takers(0)", x.takers(0), 15);
         Check.due("nextFor(0)", x.nextFor(0), 0);
-        take(x, 2, 1);
+        Check.take(x, 2, 1);
         Check.due("one with a taking first", x.nextFor(0), 2);
-        work(x, 3, 1, 10, 0, 20);
+        Check.work(x, 3, 1, 10, 0, 20);
         Check.due("a disputed one before it", x.nextFor(2), 3);
         Check.due("not its own", x.nextFor(0), 2);
         Check.due("offers(0)", x.offers(0), 7);
         Check.due("offers(3)", x.offers(3), 7);
         Check.due("takers(3)", x.takers(3), 4);
-        take(x, 3, 2);
+        Check.take(x, 3, 2);
         Check.due("offers(2), quota full", x.offers(2), 0);
         Check.due("nextFor(2), quota full", x.nextFor(2), -1);
         Check.due("takers(3), no need", x.takers(3), 0);
@@ -163,8 +148,8 @@ public final class AnswersTest {
     private static void isStuck() {
         ReviewTable x = Check.loaded(HEAD + "worker a team 0 quota 1;worker b team 0 quota 1;worker c team 1 quota 1;rows 3 size 1;");
         Check.due("isStuck(0)", x.isStuck(0), false);
-        take(x, 0, 0);
-        take(x, 1, 2);
+        Check.take(x, 0, 0);
+        Check.take(x, 1, 2);
         Check.due("c at its quota does not count", x.isStuck(0), false);
         x.setTable(2, 19);
         Check.due("suspended ones do not count", x.isStuck(0), false);
@@ -192,7 +177,7 @@ public final class AnswersTest {
         Check.due("without bea", x.bestPair(0), 2);
         x.bar(0, 2, true);
         Check.due("cy and dan", x.bestPair(0), 16 + 3);
-        take(x, 1, 2);
+        Check.take(x, 1, 2);
         Check.due("cy at its quota", x.bestPair(0), -1);
         Check.due("row with a taking", x.bestPair(1), -1);
         x.setAside(3);
@@ -210,16 +195,16 @@ public final class AnswersTest {
         x.setAside(0);
         x.setAside(1);
         Check.due("two rows for four", x.mostTakings(), 2);
-        take(x, 2, 0);
-        take(x, 3, 0);
+        Check.take(x, 2, 0);
+        Check.take(x, 3, 0);
         Check.due("bea and cy only", x.mostTakings(), 2);
         x.bar(0, 1, true);
         Check.due("cy only", x.mostTakings(), 1);
         x.setTable(2, 11);
         Check.due("all but bea suspended", x.mostTakings(), 0);
         ReviewTable y = Check.loaded(SIX + "rows 3 size 1;");
-        take(y, 0, 0);
-        take(y, 1, 0);
+        Check.take(y, 0, 0);
+        Check.take(y, 1, 0);
         for (int other = 2; other < 6; other++) {
             y.bar(0, other, true);
         }
@@ -231,10 +216,10 @@ public final class AnswersTest {
     /** Promises 20 to 23. */
     private static void pairs() {
         ReviewTable x = Check.loaded(SIX + "rows 9 size 1;bar c d;");
-        work(x, 0, 0, 10, 1, 12);
-        work(x, 1, 0, 10, 1, 13, 4, 30);
-        work(x, 2, 0, 10, 1, 10);
-        take(x, 3, 0, 1);
+        Check.work(x, 0, 0, 10, 1, 12);
+        Check.work(x, 1, 0, 10, 1, 13, 4, 30);
+        Check.work(x, 2, 0, 10, 1, 10);
+        Check.take(x, 3, 0, 1);
         x.deliver(0, 3, 50);
         Check.due("agreeing(0,1)", x.agreeing(0, 1), 2);
         Check.due("agreeing(1,0)", x.agreeing(1, 0), 2);
@@ -267,10 +252,10 @@ public final class AnswersTest {
     private static void trust() {
         ReviewTable x = Check.loaded(SIX + "rows 9 size 1;");
         Check.due("accuracy without audits", x.accuracy(0), 0.0f);
-        work(x, 0, 0, 10, 1, 12);
-        work(x, 1, 0, 10, 2, 12);
-        work(x, 2, 0, 10, 3, 12);
-        work(x, 3, 0, 10, 4, 12);
+        Check.work(x, 0, 0, 10, 1, 12);
+        Check.work(x, 1, 0, 10, 2, 12);
+        Check.work(x, 2, 0, 10, 3, 12);
+        Check.work(x, 3, 0, 10, 4, 12);
         x.audit(0, 14);
         x.audit(1, 12);
         x.audit(2, 11);
@@ -297,19 +282,19 @@ public final class AnswersTest {
         ReviewTable x = Check.loaded(SIX + "rows 2 size 3;rows 2 size 5;rows 1 size 1;");
         Check.due("risk of an open row", x.risk(0), -1);
         Check.due("nextAudit()", x.nextAudit(), -1);
-        work(x, 0, 0, 10, 1, 10);
+        Check.work(x, 0, 0, 10, 1, 10);
         Check.due("risk(0)", x.risk(0), 11);
         Check.due("nextAudit()", x.nextAudit(), 0);
-        work(x, 3, 2, 10, 3, 10);
+        Check.work(x, 3, 2, 10, 3, 10);
         Check.due("greater size first", x.nextAudit(), 3);
-        work(x, 2, 4, 10, 5, 10);
+        Check.work(x, 2, 4, 10, 5, 10);
         Check.due("lowest of the same size", x.nextAudit(), 2);
-        work(x, 1, 0, 10, 1, 10);
+        Check.work(x, 1, 0, 10, 1, 10);
         Check.due("risk(0) now", x.risk(0), 12);
         x.audit(2, 50);
         Check.due("risk(2) now", x.risk(2), 7);
         Check.due("an audited one does not count", x.nextAudit(), 3);
-        work(x, 4, 4, 1, 0, 1);
+        Check.work(x, 4, 4, 1, 0, 1);
         Check.due("least risk before size", x.nextAudit(), 4);
         Check.due("the lesser of both", x.risk(4), 8);
         Check.noWorker("risk(5)", () -> x.risk(5));
@@ -319,9 +304,9 @@ public final class AnswersTest {
     private static void times() {
         ReviewTable x = Check.loaded(FOUR);
         Check.due("nextDue()", x.nextDue(), -1);
-        take(x, 3, 0);
+        Check.take(x, 3, 0);
         x.pass(2);
-        take(x, 0, 1);
+        Check.take(x, 0, 1);
         Check.due("nextDue()", x.nextDue(), 5);
         int[][] late = {{0, 0}, {3, 0}, {4, 1}, {5, 1}, {6, 2}, {99, 2}};
         for (int[] pair : late) {
@@ -338,7 +323,7 @@ public final class AnswersTest {
     /** Promises 31 to 33. */
     private static void whatIf() {
         ReviewTable x = Check.loaded(SIX + "rows 3 size 1;");
-        take(x, 0, 0, 1);
+        Check.take(x, 0, 0, 1);
         Check.due("first result", x.stateIf(0, 0, 99), 0);
         Check.due("no trust by a first result", x.trustIf(0, 0, 99, 0), 10);
         Check.due("finishing by a first result", x.finishing(0, 0), 0);
@@ -350,7 +335,7 @@ public final class AnswersTest {
         Check.due("trustIf of the other", x.trustIf(0, 0, 0, 1), 11);
         Check.due("trustIf of one not there", x.trustIf(0, 0, 0, 2), 10);
         x.deliver(0, 0, 5);
-        take(x, 0, 2);
+        Check.take(x, 0, 2);
         Check.due("third agrees with both", x.stateIf(2, 0, 3), 2);
         Check.due("the one left agrees too", x.trustIf(2, 0, 3, 1), 10);
         Check.due("as near: the first taking", x.trustIf(2, 0, 3, 0), 11);
@@ -380,8 +365,8 @@ public final class AnswersTest {
     private static void trustStops() {
         ReviewTable x = Check.loaded("table tolerance 0 patience 9 least 0;worker a team 0 quota 1 trust 20;"
                 + "worker b team 1 quota 1 trust 2;worker c team 2 quota 1 trust 0;rows 1 size 1;");
-        work(x, 0, 0, 5, 1, 9);
-        take(x, 0, 2);
+        Check.work(x, 0, 0, 5, 1, 9);
+        Check.take(x, 0, 2);
         Check.due("not above 20", x.trustIf(2, 0, 5, 0), 20);
         Check.due("not below 0", x.trustIf(2, 0, 5, 1), 0);
         Check.due("not below 0", x.trustIf(2, 0, 6, 2), 0);
@@ -396,9 +381,9 @@ public final class AnswersTest {
         ReviewTable x = Check.loaded(SIX + "rows 2 size 4;rows 2 size 5;rows 1 size 9;");
         Check.due("leader() of all alike", x.leader(), 0);
         Check.due("partner(0)", x.partner(0), -1);
-        work(x, 0, 1, 10, 2, 11);
-        work(x, 2, 2, 10, 3, 11);
-        work(x, 1, 4, 10, 5, 20);
+        Check.work(x, 0, 1, 10, 2, 11);
+        Check.work(x, 2, 2, 10, 3, 11);
+        Check.work(x, 1, 4, 10, 5, 20);
         x.setAside(4);
         Check.due("finishedOf(4)", x.finishedOf(4), 1);
         Check.due("finishedOf(5)", x.finishedOf(5), 1);
@@ -413,9 +398,9 @@ public final class AnswersTest {
         Check.due("partner(2), the lowest", x.partner(2), 1);
         Check.due("partner(3)", x.partner(3), 2);
         Check.due("partner(4), only differing", x.partner(4), -1);
-        work(x, 3, 2, 60, 3, 60);
+        Check.work(x, 3, 2, 60, 3, 60);
         Check.due("partner(2), the most", x.partner(2), 3);
-        take(x, 1, 0);
+        Check.take(x, 1, 0);
         x.pass(6);
         for (int other = 0; other < 4; other++) {
             x.bar(4, other, true);

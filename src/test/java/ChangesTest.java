@@ -1,21 +1,7 @@
 /** Promises 40 to 49: the calls that change the table. */
 public final class ChangesTest {
-    private static final String HEAD = "table tolerance 2 patience 5 least 5;";
-    private static final String SIX = HEAD + "worker a team 0 quota 5;worker b team 1 quota 5;worker c team 2 quota 5;"
-            + "worker d team 3 quota 5;worker e team 4 quota 5;worker f team 5 quota 5;";
-
-    private static void work(ReviewTable x, int row, int... pairs) {
-        for (int i = 0; i < pairs.length; i += 2) {
-            x.takeRow(pairs[i], row);
-            x.deliver(pairs[i], row, pairs[i + 1]);
-        }
-    }
-
-    private static void trusts(String when, ReviewTable x, int... want) {
-        for (int i = 0; i < want.length; i++) {
-            Check.due(when + ": trust of " + i, x.worker(i, 2), want[i]);
-        }
-    }
+    private static final String HEAD = Check.HEAD;
+    private static final String SIX = Check.SIX;
 
     /** Promise 40. */
     private static void take() {
@@ -67,17 +53,17 @@ public final class ChangesTest {
         Check.due("one result", x.deliver(1, 0, 99), 0);
         Check.due("the second one agrees", x.deliver(0, 0, 97), 2);
         Check.due("result of the more trusted", x.row(0, 2), 99);
-        trusts("stops at 20", x, 20, 20, 20);
-        work(x, 1, 2, 50, 0, 52);
+        Check.trusts("stops at 20", x, 20, 20, 20);
+        Check.work(x, 1, 2, 50, 0, 52);
         Check.due("same trust: the first taking", x.row(1, 2), 50);
         Check.due("points", x.worker(0, 8), 14);
         Check.due("finished by it", x.worker(0, 6), 2);
         Check.due("results", x.worker(0, 5), 2);
         Check.due("in work", x.worker(0, 3), 0);
-        work(x, 2, 0, 0, 1, 3);
+        Check.work(x, 2, 0, 0, 1, 3);
         Check.due("they differ by 3", x.row(2, 1), 1);
         Check.due("no points", x.worker(0, 8), 14);
-        trusts("disputed", x, 20, 20, 20);
+        Check.trusts("disputed", x, 20, 20, 20);
         x.takeRow(0, 3);
         x.takeRow(1, 3);
         x.deliver(1, 3, 10);
@@ -94,28 +80,28 @@ public final class ChangesTest {
     /** Promise 42: a third result. */
     private static void deliverThree() {
         ReviewTable x = Check.loaded(SIX + "rows 5 size 3;");
-        work(x, 0, 0, 10, 1, 20, 2, 18);
+        Check.work(x, 0, 0, 10, 1, 20, 2, 18);
         Check.due("finished by b and c", x.finishers(0), 6);
         Check.due("same trust: the earlier taking", x.row(0, 2), 20);
-        trusts("a is left", x, 7, 11, 11, 10, 10, 10);
-        work(x, 1, 0, 10, 1, 14, 2, 12);
+        Check.trusts("a is left", x, 7, 11, 11, 10, 10, 10);
+        Check.work(x, 1, 0, 10, 1, 14, 2, 12);
         Check.due("as near: the first one", x.finishers(1), 5);
         Check.due("the more trusted", x.row(1, 2), 12);
-        trusts("the one left agrees", x, 8, 11, 12, 10, 10, 10);
-        work(x, 2, 3, 10, 4, 15, 5, 13);
+        Check.trusts("the one left agrees", x, 8, 11, 12, 10, 10, 10);
+        Check.work(x, 2, 3, 10, 4, 15, 5, 13);
         Check.due("nearer to the second", x.finishers(2), 48);
-        trusts("d is left", x, 8, 11, 12, 7, 11, 11);
-        work(x, 3, 3, 10, 4, 20);
+        Check.trusts("d is left", x, 8, 11, 12, 7, 11, 11);
+        Check.work(x, 3, 3, 10, 4, 20);
         x.takeRow(5, 3);
         Check.due("agrees with none", x.deliver(5, 3, 15), 3);
-        trusts("all three lose", x, 8, 11, 12, 6, 10, 10);
+        Check.trusts("all three lose", x, 8, 11, 12, 6, 10, 10);
         Check.due("result of one set aside", x.row(3, 2), -1);
         Check.due("its takings stay", x.row(3, 4), 3);
         Check.due("finishers of one set aside", x.finishers(3), 0);
         x.setTable(0, 5);
-        work(x, 4, 0, 10, 1, 16, 2, 15);
+        Check.work(x, 4, 0, 10, 1, 16, 2, 15);
         Check.due("nearer second, first agrees too", x.finishers(4), 6);
-        trusts("a agrees too", x, 8, 12, 13);
+        Check.trusts("a agrees too", x, 8, 12, 13);
         Check.due("points of c", x.worker(2, 8), 9);
         Check.due("points of a", x.worker(0, 8), 3);
     }
@@ -135,7 +121,7 @@ public final class ChangesTest {
         Check.due("row(0,4)", x.row(0, 4), 1);
         Check.due("who is left", x.taking(0, 0, 0), 1);
         Check.due("its time", x.taking(0, 0, 2), 6);
-        trusts("not below 0", x, 0, 9, 10);
+        Check.trusts("not below 0", x, 0, 9, 10);
         Check.due("late", x.worker(0, 7), 2);
         Check.due("in work", x.worker(0, 3), 0);
         Check.due("made", x.worker(0, 4), 2);
@@ -157,18 +143,18 @@ public final class ChangesTest {
     /** Promise 44. */
     private static void audit() {
         ReviewTable x = Check.loaded(SIX + "rows 4 size 4;");
-        work(x, 0, 0, 10, 1, 12);
+        Check.work(x, 0, 0, 10, 1, 12);
         Check.due("right at the edge", x.audit(0, 12), true);
-        trusts("both agree", x, 13, 13);
+        Check.trusts("both agree", x, 13, 13);
         Check.due("the result stays", x.row(0, 2), 10);
-        work(x, 1, 2, 10, 3, 12);
+        Check.work(x, 1, 2, 10, 3, 12);
         Check.due("the result differs", x.audit(1, 13), false);
-        trusts("one agrees", x, 13, 13, 7, 13);
+        Check.trusts("one agrees", x, 13, 13, 7, 13);
         Check.due("the result becomes it", x.row(1, 2), 13);
         Check.due("a strike", x.strikes(3, 2), 1);
-        work(x, 2, 0, 10, 4, 20, 5, 20);
+        Check.work(x, 2, 0, 10, 4, 20, 5, 20);
         Check.due("wrong for the two", x.audit(2, 10), false);
-        trusts("the one left gains", x, 12, 13, 7, 13, 7, 7);
+        Check.trusts("the one left gains", x, 12, 13, 7, 13, 7, 7);
         Check.due("strike of the two by which it was finished", x.strikes(4, 5), 1);
         Check.due("none with the one left", x.strikes(0, 5), 0);
         Check.due("points stay", x.worker(4, 8), 4);
@@ -179,20 +165,20 @@ public final class ChangesTest {
         Check.noValue("audit(3,-1)", () -> x.audit(3, -1));
         ReviewTable y = Check.loaded("table tolerance 0 patience 9 least 0;worker a team 0 quota 1 trust 3;"
                 + "worker b team 1 quota 1 trust 19;rows 2 size 1;");
-        work(y, 0, 0, 5, 1, 5);
+        Check.work(y, 0, 0, 5, 1, 5);
         y.audit(0, 5);
-        trusts("not above 20", y, 6, 20);
+        Check.trusts("not above 20", y, 6, 20);
         y.setTable(0, 9);
-        work(y, 1, 0, 5, 1, 14);
+        Check.work(y, 1, 0, 5, 1, 14);
         y.audit(1, 99);
-        trusts("less by 4", y, 3, 16);
+        Check.trusts("less by 4", y, 3, 16);
     }
 
     /** Promise 44: two strikes, and that they part a pair. */
     private static void strikes() {
         ReviewTable x = Check.loaded(SIX + "rows 4 size 4;");
-        work(x, 0, 0, 10, 1, 10);
-        work(x, 1, 1, 10, 0, 10);
+        Check.work(x, 0, 0, 10, 1, 10);
+        Check.work(x, 1, 1, 10, 0, 10);
         x.takeRow(1, 2);
         x.audit(0, 50);
         Check.due("one strike", x.refusal(0, 2), 0);
@@ -221,9 +207,9 @@ public final class ChangesTest {
         x.takeRow(2, 1);
         x.takeRow(3, 1);
         Check.due("two in work", x.setAside(1), 2);
-        work(x, 2, 0, 1, 1, 9);
+        Check.work(x, 2, 0, 1, 1, 9);
         Check.due("a disputed one", x.setAside(2), 0);
-        work(x, 3, 0, 1, 1, 1);
+        Check.work(x, 3, 0, 1, 1, 1);
         Check.noState("a finished one", () -> x.setAside(3));
         Check.noState("one set aside", () -> x.setAside(0));
         Check.noWorker("setAside(4)", () -> x.setAside(4));
@@ -296,7 +282,7 @@ public final class ChangesTest {
     /** Promise 49. */
     private static void setTable() {
         ReviewTable x = Check.loaded(SIX + "rows 3 size 1;");
-        work(x, 0, 0, 10, 1, 15);
+        Check.work(x, 0, 0, 10, 1, 15);
         int[] most = {20, 50, 19};
         int[] least = {0, 1, 0};
         int[] first = {2, 5, 5};

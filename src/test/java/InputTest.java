@@ -1,6 +1,6 @@
 /** Promises 2 to 7: the input buffer, load() with its errors, find(). */
 public final class InputTest {
-    private static final String HEAD = "table tolerance 2 patience 5 least 5;";
+    private static final String HEAD = Check.HEAD;
 
     /** Promise 2 and 3. */
     private static void appendAndTruncate() {
@@ -52,91 +52,74 @@ public final class InputTest {
         Check.due("find after undo of load", x.find(), -1);
     }
 
-    private static void error(String text, int code, int position) {
-        ReviewTable x = Check.loaded(HEAD + "worker old team 3 quota 2;rows 3 size 4;");
-        Check.due("load " + text, Check.load(x, text), -4);
-        Check.due("errorCode of " + text, x.errorCode(), code);
-        Check.due("errorPosition of " + text, x.errorPosition(), position);
-        Check.due("workers after " + text, x.property(0), 1);
-        Check.due("rows after " + text, x.property(1), 3);
-        Check.due("undoCount after " + text, x.undoCount(), 1);
-        Check.due("buffer after " + text, x.append(0, 0, 0, 0, 0), 20);
-    }
-
-    /** The error is at the place of the mark ^, which is taken out. */
-    private static void marked(int code, String text) {
-        int position = text.indexOf('^');
-        error(text.substring(0, position) + text.substring(position + 1), code, position);
-    }
-
     /** Promise 4 to 6: tokens that cannot stand there, code 1. */
     private static void wrongTokens() {
-        marked(1, "^");
-        marked(1, "  \n ^");
-        marked(1, "^;");
-        marked(1, "^rows 1 size 1;");
-        marked(1, "^tabletolerance 1 patience 1 least 1;");
-        marked(1, "^Table tolerance 1 patience 1 least 1;");
-        marked(1, "table ^1");
-        marked(1, "table tolerance ^-1 patience 1 least 1;");
-        marked(1, "table tolerance 1 ^tolerance 1;");
-        marked(1, "table tolerance 1 patience 1 least 1^");
-        marked(1, "table tolerance 1 patience 1 least 1 \n^");
-        marked(1, "table tolerance 1^\t patience 1 least 1;");
-        marked(1, HEAD + "^;");
-        marked(1, HEAD + "^" + HEAD);
-        marked(1, HEAD + "rows 1 size 1^,");
-        marked(1, HEAD + "rows ^size 1;");
-        marked(1, HEAD + "rows 1 size^");
-        marked(1, HEAD + "^workers a team 1 quota 1;");
-        marked(1, HEAD + "worker ^seventy team 1 quota 1;");
-        marked(1, HEAD + "worker ^team team 1 quota 1;");
-        marked(1, HEAD + "worker ^bar team 1 quota 1;");
-        marked(1, HEAD + "worker ^1 team 1 quota 1;");
-        marked(1, HEAD + "worker a^1 team 1 quota 1;");
-        marked(1, HEAD + "worker a team 1 quota 1 ^quota 1;");
-        marked(1, HEAD + "worker a team 1 ^trust 1;");
-        marked(1, HEAD + "worker a team 1 quota 1 trust ^;");
-        marked(1, HEAD + "worker a team 1 quota 1;bar a ^;");
-        marked(1, HEAD + "worker a team 1 quota 1;bar ^size a;");
-        marked(1, HEAD + "worker a team 1 quota 1;bar a ^rows;");
-        marked(1, HEAD + "worker a team 1 quota 1;bar a ^abcdefg;");
-        marked(1, HEAD + "^\u00e9");
+        Check.refused(1, "^");
+        Check.refused(1, "  \n ^");
+        Check.refused(1, "^;");
+        Check.refused(1, "^rows 1 size 1;");
+        Check.refused(1, "^tabletolerance 1 patience 1 least 1;");
+        Check.refused(1, "^Table tolerance 1 patience 1 least 1;");
+        Check.refused(1, "table ^1");
+        Check.refused(1, "table tolerance ^-1 patience 1 least 1;");
+        Check.refused(1, "table tolerance 1 ^tolerance 1;");
+        Check.refused(1, "table tolerance 1 patience 1 least 1^");
+        Check.refused(1, "table tolerance 1 patience 1 least 1 \n^");
+        Check.refused(1, "table tolerance 1^\t patience 1 least 1;");
+        Check.refused(1, HEAD + "^;");
+        Check.refused(1, HEAD + "^" + HEAD);
+        Check.refused(1, HEAD + "rows 1 size 1^,");
+        Check.refused(1, HEAD + "rows ^size 1;");
+        Check.refused(1, HEAD + "rows 1 size^");
+        Check.refused(1, HEAD + "^workers a team 1 quota 1;");
+        Check.refused(1, HEAD + "worker ^seventy team 1 quota 1;");
+        Check.refused(1, HEAD + "worker ^team team 1 quota 1;");
+        Check.refused(1, HEAD + "worker ^bar team 1 quota 1;");
+        Check.refused(1, HEAD + "worker ^1 team 1 quota 1;");
+        Check.refused(1, HEAD + "worker a^1 team 1 quota 1;");
+        Check.refused(1, HEAD + "worker a team 1 quota 1 ^quota 1;");
+        Check.refused(1, HEAD + "worker a team 1 ^trust 1;");
+        Check.refused(1, HEAD + "worker a team 1 quota 1 trust ^;");
+        Check.refused(1, HEAD + "worker a team 1 quota 1;bar a ^;");
+        Check.refused(1, HEAD + "worker a team 1 quota 1;bar ^size a;");
+        Check.refused(1, HEAD + "worker a team 1 quota 1;bar a ^rows;");
+        Check.refused(1, HEAD + "worker a team 1 quota 1;bar a ^abcdefg;");
+        Check.refused(1, HEAD + "^\u00e9");
     }
 
     /** Promise 4 to 6: numbers, names and room, codes 2 to 4. */
     private static void wrongValues() {
-        marked(2, "table tolerance ^21 patience 1 least 1;");
-        marked(2, "table tolerance 20 patience ^0 least 1;");
-        marked(2, "table tolerance 20 patience ^51 least 1;");
-        marked(2, "table tolerance 20 patience 50 least ^20;");
-        marked(2, "table tolerance ^4294967296 patience 1 least 1;");
-        marked(2, "table tolerance ^18446744073709551616000000000000000000000001 patience 1 least 1;");
-        marked(2, HEAD + "worker a team ^6 quota 1;");
-        marked(2, HEAD + "worker a team 5 quota ^0;");
-        marked(2, HEAD + "worker a team 5 quota ^6;");
-        marked(2, HEAD + "worker a team 5 quota 5 trust ^21;");
-        marked(2, HEAD + "rows ^0 size 1;");
-        marked(2, HEAD + "rows ^25 size 1;");
-        marked(2, HEAD + "rows 1 size ^0;");
-        marked(2, HEAD + "rows 1 size ^10;");
-        marked(2, HEAD + "rows 24 size 1;rows ^25 size 1;");
-        marked(2, HEAD + "rows 24 size 1;rows ^0 size 1;");
-        marked(3, HEAD + "worker a team 1 quota 1;worker ^a team 1 quota 1;");
-        marked(3, HEAD + "bar ^a b;");
-        marked(3, HEAD + "worker a team 1 quota 1;bar ^b a;");
-        marked(3, HEAD + "worker a team 1 quota 1;bar a ^b;worker b team 1 quota 1;");
-        marked(3, HEAD + "worker a team 1 quota 1;bar a ^a;");
-        marked(3, HEAD + "worker a team 1 quota 1;worker b team 1 quota 1;bar a b;bar a ^b;");
-        marked(3, HEAD + "worker a team 1 quota 1;worker b team 1 quota 1;bar a b;bar b ^a;");
-        marked(4, HEAD + "rows 24 size 1;rows ^1 size 1;");
-        marked(4, HEAD + "rows 20 size 1;rows ^5 size 10;");
+        Check.refused(2, "table tolerance ^21 patience 1 least 1;");
+        Check.refused(2, "table tolerance 20 patience ^0 least 1;");
+        Check.refused(2, "table tolerance 20 patience ^51 least 1;");
+        Check.refused(2, "table tolerance 20 patience 50 least ^20;");
+        Check.refused(2, "table tolerance ^4294967296 patience 1 least 1;");
+        Check.refused(2, "table tolerance ^18446744073709551616000000000000000000000001 patience 1 least 1;");
+        Check.refused(2, HEAD + "worker a team ^6 quota 1;");
+        Check.refused(2, HEAD + "worker a team 5 quota ^0;");
+        Check.refused(2, HEAD + "worker a team 5 quota ^6;");
+        Check.refused(2, HEAD + "worker a team 5 quota 5 trust ^21;");
+        Check.refused(2, HEAD + "rows ^0 size 1;");
+        Check.refused(2, HEAD + "rows ^25 size 1;");
+        Check.refused(2, HEAD + "rows 1 size ^0;");
+        Check.refused(2, HEAD + "rows 1 size ^10;");
+        Check.refused(2, HEAD + "rows 24 size 1;rows ^25 size 1;");
+        Check.refused(2, HEAD + "rows 24 size 1;rows ^0 size 1;");
+        Check.refused(3, HEAD + "worker a team 1 quota 1;worker ^a team 1 quota 1;");
+        Check.refused(3, HEAD + "bar ^a b;");
+        Check.refused(3, HEAD + "worker a team 1 quota 1;bar ^b a;");
+        Check.refused(3, HEAD + "worker a team 1 quota 1;bar a ^b;worker b team 1 quota 1;");
+        Check.refused(3, HEAD + "worker a team 1 quota 1;bar a ^a;");
+        Check.refused(3, HEAD + "worker a team 1 quota 1;worker b team 1 quota 1;bar a b;bar a ^b;");
+        Check.refused(3, HEAD + "worker a team 1 quota 1;worker b team 1 quota 1;bar a b;bar b ^a;");
+        Check.refused(4, HEAD + "rows 24 size 1;rows ^1 size 1;");
+        Check.refused(4, HEAD + "rows 20 size 1;rows ^5 size 10;");
         StringBuilder six = new StringBuilder(HEAD);
         for (char c = 'a'; c <= 'f'; c++) {
             six.append("worker ").append(c).append(" team 1 quota 1;");
         }
-        marked(4, six + "^worker a team 1 quota 1;");
-        marked(4, six + "^worker");
+        Check.refused(4, six + "^worker a team 1 quota 1;");
+        Check.refused(4, six + "^worker");
     }
 
     /** Promise 4: texts without an error, and what they make. */

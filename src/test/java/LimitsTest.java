@@ -1,18 +1,10 @@
 /** Promises 8 to 49 at their limits: each argument wrong by itself, a full table, and rows that are there no more. */
 public final class LimitsTest {
-    private static final String HEAD = "table tolerance 2 patience 5 least 5;";
-    private static final String SIX = HEAD + "worker a team 0 quota 5;worker b team 1 quota 5;worker c team 2 quota 5;"
-            + "worker d team 3 quota 5;worker e team 4 quota 5;worker f team 5 quota 5;";
+    private static final String HEAD = Check.HEAD;
+    private static final String SIX = Check.SIX;
     private static final int[] NOBODY = {-1, 6, 7, 31, 32, Integer.MAX_VALUE, Integer.MIN_VALUE};
     private static final int[] NO_ROW = {-1, 2, 3, 24, 32, Integer.MAX_VALUE, Integer.MIN_VALUE};
     private static final int[] NO_RESULT = {-1, 100, 101, Integer.MAX_VALUE, Integer.MIN_VALUE};
-
-    private static void work(ReviewTable x, int row, int... pairs) {
-        for (int i = 0; i < pairs.length; i += 2) {
-            x.takeRow(pairs[i], row);
-            x.deliver(pairs[i], row, pairs[i + 1]);
-        }
-    }
 
     private static void wrongWorkers(ReviewTable x) {
         for (int w : NOBODY) {
@@ -103,7 +95,7 @@ public final class LimitsTest {
         Check.due("trustIf(1,0,0,1)", x.trustIf(1, 0, 0, 1), 10);
         Check.due("trustIf(1,0,99,1)", x.trustIf(1, 0, 99, 1), 11);
         Check.due("deliver(1,0,99)", x.deliver(1, 0, 99), 2);
-        work(x, 1, 0, 0, 1, 0);
+        Check.work(x, 1, 0, 0, 1, 0);
         Check.due("finishedOf(1)", x.finishedOf(1), 1);
         Check.due("finishedOf(9)", x.finishedOf(9), 1);
         Check.due("audit(0,99)", x.audit(0, 99), true);
@@ -118,7 +110,7 @@ public final class LimitsTest {
     private static void theFirstOnes() {
         ReviewTable x = Check.loaded(SIX + "rows 2 size 5;");
         Check.due("left()", x.left(), 10);
-        work(x, 0, 0, 7, 1, 7);
+        Check.work(x, 0, 0, 7, 1, 7);
         Check.due("place(2) behind both", x.place(2), 3);
         Check.due("partner(1)", x.partner(1), 0);
         Check.due("partner(0)", x.partner(0), 1);
@@ -220,7 +212,7 @@ public final class LimitsTest {
         Check.due("pass(6)", x.pass(6), 2);
         Check.due("nextDue()", x.nextDue(), -1);
         Check.due("lateIn(99)", x.lateIn(99), 0);
-        work(x, 0, 2, 10, 3, 20);
+        Check.work(x, 0, 2, 10, 3, 20);
         x.takeRow(4, 0);
         Check.due("nextDue() of the third", x.nextDue(), 11);
         Check.due("lateIn(6) of the third", x.lateIn(6), 1);
@@ -235,7 +227,7 @@ public final class LimitsTest {
         ReviewTable x = Check.loaded(SIX + "rows 1 size 1;");
         x.keep(0);
         x.addRows(2, 1);
-        work(x, 2, 0, 9, 1, 9);
+        Check.work(x, 2, 0, 9, 1, 9);
         x.takeRow(0, 1);
         x.restore(0);
         Check.due("finishedOf(1)", x.finishedOf(1), 0);

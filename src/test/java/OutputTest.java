@@ -5,22 +5,15 @@ public final class OutputTest {
     private static final String TEXT = "table tolerance 2 patience 5 least 5;worker amosam team 0 quota 5;"
             + "worker b team 1 quota 5 trust 5;worker cy team 2 quota 5 trust 20;rows 6 size 9;";
 
-    private static void work(ReviewTable x, int row, int... pairs) {
-        for (int i = 0; i < pairs.length; i += 2) {
-            x.takeRow(pairs[i], row);
-            x.deliver(pairs[i], row, pairs[i + 1]);
-        }
-    }
-
     /** Promise 54. */
     private static void rows() {
         ReviewTable x = Check.loaded(TEXT);
         Check.due("writeRows()", x.writeRows(), 11);
         Check.due("rows", Check.rowsText(x), "o o o o o o");
-        work(x, 1, 0, 10, 1, 20);
-        work(x, 2, 0, 10, 2, 8);
-        work(x, 3, 0, 0, 2, 0);
-        work(x, 4, 0, 99, 2, 97);
+        Check.work(x, 1, 0, 10, 1, 20);
+        Check.work(x, 2, 0, 10, 2, 8);
+        Check.work(x, 3, 0, 0, 2, 0);
+        Check.work(x, 4, 0, 99, 2, 97);
         x.audit(3, 0);
         x.audit(4, 3);
         x.setAside(5);
@@ -58,8 +51,8 @@ public final class OutputTest {
         ReviewTable x = Check.loaded(TEXT);
         Check.due("workers", Check.workersText(x), "amosam:10/0 b:5/0 cy:20/0");
         x.setTable(2, 6);
-        work(x, 0, 0, 1, 2, 1);
-        work(x, 1, 0, 1, 2, 1);
+        Check.work(x, 0, 0, 1, 2, 1);
+        Check.work(x, 1, 0, 1, 2, 1);
         Check.due("workers", Check.workersText(x), "amosam:12/18 b:5!/0 cy:20/18");
         ReviewTable none = new ReviewTable();
         none.addRows(3, 3);

@@ -1,40 +1,11 @@
 /** Promises 50 to 53: slots and undo. */
 public final class UndoTest {
-    private static final String HEAD = "table tolerance 2 patience 5 least 5;";
+    private static final String HEAD = Check.HEAD;
     private static final String TEXT = HEAD + "worker a team 0 quota 5;worker b team 1 quota 5;worker c team 2 quota 5;"
             + "worker d team 3 quota 5 trust 3;rows 2 size 4;rows 2 size 9;";
 
     interface Change {
         void in(ReviewTable x);
-    }
-
-    /** All that the questions tell of a table, as one text. */
-    private static String told(ReviewTable x) {
-        StringBuilder text = new StringBuilder();
-        for (int i = 0; i <= 10; i++) {
-            text.append(x.property(i)).append(' ');
-        }
-        for (int i = 0; i < x.property(0); i++) {
-            text.append('\n');
-            for (int what = 0; what <= 8; what++) {
-                text.append(x.worker(i, what)).append(' ');
-            }
-            for (int other = 0; other < x.property(0); other++) {
-                text.append(x.strikes(i, other)).append(x.isBarred(i, other) ? "x " : " ");
-            }
-            text.append(x.accuracy(i));
-        }
-        for (int i = 0; i < x.property(1); i++) {
-            text.append('\n');
-            for (int what = 0; what <= 6; what++) {
-                text.append(x.row(i, what)).append(' ');
-            }
-            for (int k = 0; k < x.row(i, 4); k++) {
-                text.append(x.taking(i, k, 0)).append('=').append(x.taking(i, k, 1)).append('@').append(x.taking(i, k, 2)).append(' ');
-            }
-            text.append(x.finishers(i));
-        }
-        return text.toString();
     }
 
     /** A table with all that there can be: takings in work, a finished row, an audited one, strikes. */
@@ -60,15 +31,15 @@ public final class UndoTest {
 
     private static void undone(String call, Change change) {
         ReviewTable x = busy();
-        String before = told(x);
+        String before = Check.told(x);
         Check.due("undoCount, full", x.undoCount(), 6);
         change.in(x);
         Check.due("undoCount after " + call, x.undoCount(), 6);
-        String after = told(x);
+        String after = Check.told(x);
         Check.due(call + " changes something", after.equals(before), false);
         Check.due("undo of " + call, x.undo(), 5);
         Check.due("undoCount", x.undoCount(), 5);
-        Check.due("state after undo of " + call, told(x), before);
+        Check.due("state after undo of " + call, Check.told(x), before);
     }
 
     /** Promise 52: each call that can be undone. */
@@ -158,30 +129,30 @@ public final class UndoTest {
         ReviewTable x = Check.loaded(TEXT);
         x.pass(7);
         x.take(0);
-        String first = told(x);
+        String first = Check.told(x);
         Check.due("keep(0)", x.keep(0), 7);
         Check.noState("restore(1)", () -> x.restore(1));
         x.pass(5);
         x.addRows(2, 2);
-        String second = told(x);
+        String second = Check.told(x);
         Check.due("keep(1)", x.keep(1), 12);
         Check.load(x, HEAD);
         Check.due("restore(0)", x.restore(0), 7);
-        Check.due("as it was", told(x), first);
+        Check.due("as it was", Check.told(x), first);
         x.pass(9);
         x.deliver(1, 0, 0 * x.take(1));
         Check.due("restore(1)", x.restore(1), 12);
-        Check.due("as it was", told(x), second);
+        Check.due("as it was", Check.told(x), second);
         Check.due("restore(0), which keeps it", x.restore(0), 7);
-        Check.due("as it was", told(x), first);
+        Check.due("as it was", Check.told(x), first);
         x.pass(1);
         x.keep(0);
         Check.due("in place of what was there", x.restore(0), 8);
         x.undo();
         x.undo();
-        Check.due("undo of pass", told(x), first);
+        Check.due("undo of pass", Check.told(x), first);
         Check.due("undo of restore", x.undo(), 3);
-        Check.due("undo of restore", told(x), second);
+        Check.due("undo of restore", Check.told(x), second);
         Check.noWorker("keep(2)", () -> x.keep(2));
         Check.noWorker("keep(-1)", () -> x.keep(-1));
         Check.noWorker("restore(2)", () -> x.restore(2));
