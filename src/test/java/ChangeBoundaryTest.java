@@ -48,6 +48,23 @@ public final class ChangeBoundaryTest {
         }
     }
 
+    /** take(): "a disputed one, or else one that has a taking, or else another one, the lowest one of several". */
+    private static void takeByKinds() {
+        ReviewTable x = table(0, 0, 10, 10, 10, 10);
+        Check.take(x, 8, 0);
+        Check.take(x, 9, 0);
+        Check.work(x, 4, 0, 0, 1, 9);
+        Check.work(x, 5, 0, 0, 1, 9);
+        int[] want = {4, 5, 8, 9, 0};
+        for (int row : want) {
+            Check.due("nextFor(2)", x.nextFor(2), row);
+            Check.due("take(2)", x.take(2), row);
+        }
+        Check.noState("its quota is full", () -> x.take(2));
+        Check.due("the other one of the first row", x.take(3), 0);
+        Check.due("another one", x.take(3), 1);
+    }
+
     /** takeRow(): "if it cannot take it": each of the six reasons. */
     private static void takeRowRefused() {
         ReviewTable x = Check.loaded(HEAD + "worker a team 0 quota 1;worker b team 0 quota 5;worker c team 1 quota 5;"
@@ -1001,6 +1018,7 @@ public final class ChangeBoundaryTest {
 
     public static void main(String[] args) {
         takeNone();
+        takeByKinds();
         takeRowRefused();
         dueTimes();
         orderOfExceptions();

@@ -465,6 +465,35 @@ public final class TextBoundaryTest {
         Check.noState("restore(1)", () -> x.restore(1));
     }
 
+    /** "Before the first successful load() there are no workers and rows, the tolerance is 0, the patience 10, the least trust 5, and the time is 0." */
+    private static void beforeTheFirstLoad() {
+        ReviewTable x = new ReviewTable();
+        Check.due("load", Check.load(x, "table tolerance 3 patience 4 least 6;worker a team 0 quota 1;rows 2 size 1;x"), -4);
+        int[] want = {0, 0, 0, 0, 10, 5, 0, 0, 0, 0, 0};
+        for (int what = 0; what < want.length; what++) {
+            Check.due("property(" + what + ")", x.property(what), want[what]);
+        }
+        Check.due("undoCount()", x.undoCount(), 0);
+        Check.put(x, "a");
+        Check.due("find", x.find(), -1);
+        Check.due("it can be used", x.addRows(1, 1), 0);
+        Check.due("it can be used", x.setTable(1, 4), 10);
+        Check.due("it can be used", x.pass(1), 0);
+    }
+
+    /** "behind load() the time is 0, too", and none of what was late before is late again. */
+    private static void timeBehindLoad() {
+        ReviewTable x = Check.loaded(TWO + "rows 1 size 1;");
+        x.takeRow(0, 0);
+        x.pass(99);
+        Check.due("load", Check.load(x, TWO + "rows 1 size 1;"), 2);
+        Check.due("time", x.property(2), 0);
+        Check.due("due by the new time", x.takeRow(0, 0), 5);
+        x.undo();
+        x.undo();
+        Check.due("time of before", x.property(2), 99);
+    }
+
     /** "On success everything but the two slots and the output buffer is that of the text." */
     private static void successfulLoad() {
         ReviewTable x = busy();
@@ -582,6 +611,8 @@ public final class TextBoundaryTest {
         positions();
         loadEmptiesTheBuffer();
         failedLoad();
+        beforeTheFirstLoad();
+        timeBehindLoad();
         successfulLoad();
         lastParseError();
         loadAnswers();
