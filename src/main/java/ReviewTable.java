@@ -171,9 +171,9 @@ public final class ReviewTable {
         }
         requireRange(what, 0, 2);
         switch (what) {
-            case 0: return asked.workerOf[index];
-            case 1: return asked.resultOf[index];
-            default: return asked.isInWork(index) ? asked.dueOf[index] : NONE;
+            case 0: return asked.workerAt(index);
+            case 1: return asked.resultAt(index);
+            default: return asked.isInWork(index) ? asked.dueAt(index) : NONE;
         }
     }
 
@@ -699,13 +699,13 @@ public final class ReviewTable {
     }
 
     private void putTaking(Row row, int index) {
-        output.append(table.workers[row.workerOf[index]].name);
+        output.append(table.workers[row.workerAt(index)].name);
         if (row.isInWork(index)) {
             output.append('@');
-            output.append(row.dueOf[index]);
+            output.append(row.dueAt(index));
         } else {
             output.append('=');
-            output.append(row.resultOf[index]);
+            output.append(row.resultAt(index));
         }
     }
 
@@ -731,6 +731,7 @@ public final class ReviewTable {
     private static final class Input {
         final int[] bytes = new int[MAX_INPUT];
         int length = 0;
+        private final StringBuilder text = new StringBuilder();
 
         void addFourBytes(int four) {
             if (length + BYTES_PER_INT > MAX_INPUT) {
@@ -742,12 +743,12 @@ public final class ReviewTable {
             }
         }
 
-        boolean spells(int start, int end, String text) {
-            if (start < 0 || end > length || end - start != text.length()) {
+        boolean spells(int start, int end, String word) {
+            if (start < 0 || end > length || end - start != word.length()) {
                 return false;
             }
-            for (int i = 0; i < text.length(); i++) {
-                if (bytes[start + i] != text.charAt(i)) {
+            for (int i = 0; i < word.length(); i++) {
+                if (bytes[start + i] != word.charAt(i)) {
                     return false;
                 }
             }
@@ -755,7 +756,7 @@ public final class ReviewTable {
         }
 
         String textBetween(int start, int end) {
-            StringBuilder text = new StringBuilder();
+            text.setLength(0);
             for (int i = Math.max(0, start); i < Math.min(end, length); i++) {
                 text.append((char) bytes[i]);
             }
@@ -806,7 +807,13 @@ public final class ReviewTable {
         }
     }
 
+    /** A row; the numbers of its takings stand in one array, for there are many rows, and each array takes room. */
     private static final class Row {
+        private static final int WORKER = 0;
+        private static final int RESULT = 1;
+        private static final int DUE = 2;
+        private static final int NUMBERS_PER_TAKING = 3;
+
         int size;
         int state;
         int result = NONE;
@@ -816,9 +823,7 @@ public final class ReviewTable {
         int firstFinisher = NONE;
         int secondFinisher = NONE;
         int takingCount;
-        final int[] workerOf = new int[MAX_TAKINGS];
-        final int[] resultOf = new int[MAX_TAKINGS];
-        final int[] dueOf = new int[MAX_TAKINGS];
+        private final int[] takings = new int[MAX_TAKINGS * NUMBERS_PER_TAKING];
 
         void begin(int newSize) {
             size = newSize;
@@ -842,23 +847,31 @@ public final class ReviewTable {
             firstFinisher = other.firstFinisher;
             secondFinisher = other.secondFinisher;
             takingCount = other.takingCount;
-            for (int i = 0; i < MAX_TAKINGS; i++) {
-                workerOf[i] = other.workerOf[i];
-                resultOf[i] = other.resultOf[i];
-                dueOf[i] = other.dueOf[i];
-            }
+            System.arraycopy(other.takings, 0, takings, 0, takings.length);
         }
 
         boolean isClosed() {
             return state == FINISHED || state == ASIDE;
         }
 
+        int workerAt(int index) {
+            return takings[index * NUMBERS_PER_TAKING + WORKER];
+        }
+
+        int resultAt(int index) {
+            return takings[index * NUMBERS_PER_TAKING + RESULT];
+        }
+
+        int dueAt(int index) {
+            return takings[index * NUMBERS_PER_TAKING + DUE];
+        }
+
         boolean isInWork(int index) {
-            return resultOf[index] == NONE;
+            return resultAt(index) == NONE;
         }
 
         boolean isLateAt(int index, int time) {
-            return isInWork(index) && dueOf[index] < time;
+            return isInWork(index) && dueAt(index) < time;
         }
 
         int missingWorkers() {
@@ -872,7 +885,7 @@ public final class ReviewTable {
         /** Returns the index of the worker's taking; a worker has at most one, for it cannot take a row again. */
         int takingBy(int worker) {
             for (int i = 0; i < takingCount; i++) {
-                if (workerOf[i] == worker) {
+                if (workerAt(i) == worker) {
                     return i;
                 }
             }
@@ -881,14 +894,14 @@ public final class ReviewTable {
 
         int resultBy(int worker) {
             int index = takingBy(worker);
-            return index == NONE ? NONE : resultOf[index];
+            return index == NONE ? NONE : resultAt(index);
         }
 
         int leastDue() {
             int least = NONE;
             for (int i = 0; i < takingCount; i++) {
-                if (isInWork(i) && (least == NONE || dueOf[i] < least)) {
-                    least = dueOf[i];
+                if (isInWork(i) && (least == NONE || dueAt(i) < least)) {
+                    least = dueAt(i);
                 }
             }
             return least;
@@ -908,17 +921,23 @@ public final class ReviewTable {
             if (takingCount >= MAX_TAKINGS) {
                 return;
             }
-            workerOf[takingCount] = worker;
-            resultOf[takingCount] = NONE;
-            dueOf[takingCount] = due;
+            setTaking(takingCount, worker, NONE, due);
             takingCount++;
             tookBefore |= 1 << worker;
         }
 
+        void enterResult(int index, int newResult) {
+            takings[index * NUMBERS_PER_TAKING + RESULT] = newResult;
+        }
+
         void moveTaking(int from, int to) {
-            workerOf[to] = workerOf[from];
-            resultOf[to] = resultOf[from];
-            dueOf[to] = dueOf[from];
+            setTaking(to, workerAt(from), resultAt(from), dueAt(from));
+        }
+
+        private void setTaking(int index, int worker, int newResult, int due) {
+            takings[index * NUMBERS_PER_TAKING + WORKER] = worker;
+            takings[index * NUMBERS_PER_TAKING + RESULT] = newResult;
+            takings[index * NUMBERS_PER_TAKING + DUE] = due;
         }
     }
 
@@ -1079,7 +1098,7 @@ public final class ReviewTable {
             }
             int clash = 0;
             for (int i = 0; i < row.takingCount; i++) {
-                int other = row.workerOf[i];
+                int other = row.workerAt(i);
                 if (workers[other].team == workers[worker].team) {
                     return SAME_TEAM;
                 }
@@ -1194,22 +1213,22 @@ public final class ReviewTable {
         }
 
         void enterResult(int row, int index, int result) {
-            Worker worker = workers[rows[row].workerOf[index]];
+            Worker worker = workers[rows[row].workerAt(index)];
             worker.inWork--;
             worker.delivered++;
-            rows[row].resultOf[index] = result;
+            rows[row].enterResult(index, result);
         }
 
         void settle(int number, Verdict verdict) {
             Row row = rows[number];
             row.state = verdict.state;
             for (int i = 0; i < row.takingCount; i++) {
-                workers[row.workerOf[i]].changeTrust(verdict.change[i]);
+                workers[row.workerAt(i)].changeTrust(verdict.change[i]);
             }
             if (verdict.state == FINISHED) {
                 row.result = verdict.result;
-                row.firstFinisher = row.workerOf[verdict.earlier];
-                row.secondFinisher = row.workerOf[verdict.later];
+                row.firstFinisher = row.workerAt(verdict.earlier);
+                row.secondFinisher = row.workerAt(verdict.later);
                 reward(row.firstFinisher, row.size);
                 reward(row.secondFinisher, row.size);
             }
@@ -1236,7 +1255,7 @@ public final class ReviewTable {
             int before = row.takingCount;
             for (int i = 0; i < before; i++) {
                 if (onlyLate ? row.isLateAt(i, time) : row.isInWork(i)) {
-                    endWork(workers[row.workerOf[i]], onlyLate);
+                    endWork(workers[row.workerAt(i)], onlyLate);
                 } else {
                     row.moveTaking(i, kept);
                     kept++;
@@ -1263,7 +1282,7 @@ public final class ReviewTable {
 
         boolean examine(Row row, int number) {
             for (int i = 0; i < row.takingCount; i++) {
-                workers[row.workerOf[i]].changeTrust(agree(row.resultOf[i], number) ? 2 : -4);
+                workers[row.workerAt(i)].changeTrust(agree(row.resultAt(i), number) ? 2 : -4);
             }
             row.audited = true;
             row.rightNumber = number;
@@ -1306,8 +1325,8 @@ public final class ReviewTable {
             for (int i = 0; i < MAX_TAKINGS; i++) {
                 boolean there = i < row.takingCount;
                 change[i] = 0;
-                results[i] = there ? row.resultOf[i] : NONE;
-                trusts[i] = there ? table.workers[row.workerOf[i]].trust : 0;
+                results[i] = there ? row.resultAt(i) : NONE;
+                trusts[i] = there ? table.workers[row.workerAt(i)].trust : 0;
             }
             results[index] = newResult;
             if (row.state == OPEN) {

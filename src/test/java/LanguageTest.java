@@ -6,7 +6,7 @@ import java.util.List;
 import java.util.regex.Matcher;
 import java.util.regex.Pattern;
 
-/** Words, signs and lengths in the class that ../shared/LANGUAGE.md rules out; it looks at the text alone. */
+/** Words, signs, lengths and objects in the class that ../shared/LANGUAGE.md rules out; it looks at the text alone. */
 public final class LanguageTest {
     private static final String[] RULED_OUT = {"->", "::", "\\btry\\b", "\\bcatch\\b", "\\bfinally\\b", "\\bassert\\b",
         "\\bsynchronized\\b", "\\brecord\\b.*\\(.*\\{", "\\bprotected\\b", "\\bpackage\\b", "Exact\\(", "\\bjava\\.io\\b",
@@ -67,11 +67,28 @@ public final class LanguageTest {
         }
     }
 
+    /** Rows, tables and texts are made in constructors and used again: else only exceptions, and one short array. */
+    private static void made(String code) {
+        String[] lines = code.split("\n");
+        String header = "";
+        for (String line : lines) {
+            if (line.matches("(    |        )(?! )[\\w\\[\\] ]+\\([^;]*")) {
+                header = line.trim();
+            }
+            boolean field = line.matches(" +(private )?(static )?final [^=(]*= new .*");
+            boolean constructor = header.matches("(public )?[A-Z]\\w*\\(.*");
+            if (line.contains("new ") && !line.contains("throw new ") && !field && !constructor) {
+                Check.due("made in " + header, line.trim(), "int[] offered = new int[MAX_WORKERS];");
+            }
+        }
+    }
+
     public static void main(String[] args) throws IOException {
         String source = Files.readString(Path.of("src/main/java/ReviewTable.java"));
         signs(source);
         words(code(source));
         lengths(code(source));
+        made(code(source));
         Check.finish("LanguageTest");
     }
 }
